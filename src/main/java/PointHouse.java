@@ -452,7 +452,8 @@ public final class PointHouse {
         if (row.isMissing()) {
             return MISSING;
         }
-        if (!row.covers(from, n)) {
+        // Where no number is taken, none stands outside, wherever they would begin.
+        if (n > 0 && !row.covers(from, n)) {
             return OUTSIDE;
         }
         if (!tape.hasRoom(n)) {

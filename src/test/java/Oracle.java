@@ -67,7 +67,7 @@ final class Oracle {
         }
     }
 
-    private static boolean in(int v, int low, int high) {
+    private static boolean in(long v, int low, int high) {
         return low <= v && v <= high;
     }
 
@@ -631,8 +631,10 @@ final class Oracle {
         if (sheets[sheet] == null) {
             return -11;
         }
-        if (!covers(sheet, from, n)) {
-            return -12;
+        for (int k = 0; k < n; k++) {
+            if (!in((long) from + k, 0, sheets[sheet].length - 1)) {
+                return -12;
+            }
         }
         if (tape.length() + n > 20) {
             return -4;

@@ -198,8 +198,19 @@ public final class OracleTests {
                 break;
             case 31: due("cell", house.cell(a, i, j * 7919), oracle.cell(a, i, j * 7919)); break;
             case 32: due("copy", house.copy(a, i, b, j, n), oracle.copy(a, i, b, j, n)); break;
-            case 33: due("taped", house.taped(a, sort, i, n), oracle.taped(a, sort, i, n)); break;
+            case 33: taped(); break;
             default: due("taken", house.taken(line, n % 7), oracle.taken(line, n % 7));
+        }
+    }
+
+    /** Of each sort in turn, so that the sheet's own is among them; of none at all, too. */
+    private void taped() {
+        int sheet = near(4);
+        int from = near(20);
+        int n = below(3) == 0 ? 0 : near(12);
+        for (int sort = -1; sort < 4; sort++) {
+            String call = "taped " + sheet + " " + sort + " " + from + " " + n;
+            due(call, house.taped(sheet, sort, from, n), oracle.taped(sheet, sort, from, n));
         }
     }
 

@@ -934,7 +934,14 @@ public final class PromiseTests {
         h.sheet(1, 2, 5);
         c.due("none of them", h.taped(0, 0, 0, 0), 0);
         c.due("none from the end on", h.taped(0, 0, 40, 0), 0);
-        c.due("from 41 on, none", h.taped(0, 0, 41, 0), OUTSIDE);
+        for (int from : new int[] {41, -1, LEAST, MOST}) {
+            c.due("none from " + from + " on", h.taped(0, 0, from, 0), 0);
+        }
+        h.sheet(2, 0, 0);
+        c.due("none of a sheet of none", h.taped(2, 0, 1, 0), 0);
+        c.due("one of a sheet of none", h.taped(2, 0, 0, 1), OUTSIDE);
+        c.due("none of another sort", h.taped(2, 1, 9, 0), OTHER_SORT);
+        c.due("none of a missing sheet", h.taped(3, 0, 9, 0), MISSING);
         c.due("n 21", h.taped(0, 0, 0, 21), BAD);
         c.due("n -1", h.taped(0, 0, 0, -1), BAD);
         c.due("sort 3", h.taped(0, 3, 0, 1), BAD);
@@ -951,6 +958,7 @@ public final class PromiseTests {
         c.due("twenty", h.taped(0, 0, 20, 20), 20);
         c.due("no room for one", h.taped(1, 2, 0, 1), FULL);
         c.due("no room is needed for none", h.taped(1, 2, 0, 0), 20);
+        c.due("no room is needed for none, outside", h.taped(1, 2, 99, 0), 20);
         c.due("places ahead of FULL", h.taped(1, 2, 5, 1), OUTSIDE);
         h.line(0, 0);
         String text = "a=b/7";
