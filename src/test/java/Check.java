@@ -31,11 +31,21 @@ final class Check {
         }
     }
 
-    /** Feeds a text (none longer than the tape has room for) byte by byte. */
+    /** Feeds a text, none longer than the tape has room for, in as few calls as may be. */
     static void feed(PointHouse house, String text) {
-        for (int i = 0; i < text.length(); i++) {
-            house.feed(1, text.charAt(i));
+        for (int from = 0; from < text.length(); from += 8) {
+            String part = text.substring(from, Math.min(text.length(), from + 8));
+            house.feed(part.length(), packed(part));
         }
+    }
+
+    /** Up to eight signs as a number, the first one lowest. */
+    static long packed(String signs) {
+        long bytes = 0;
+        for (int i = signs.length() - 1; i >= 0; i--) {
+            bytes = bytes << 8 | signs.charAt(i);
+        }
+        return bytes;
     }
 
     static int line(PointHouse house, String text) {

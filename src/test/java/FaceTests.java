@@ -25,7 +25,10 @@ public final class FaceTests {
         "\\bsynchronized\\b", "\\bassert\\b", "->", "::", "@", "Exact\\b", "\\bnew\\s+\\w+\\([^)]*\\)\\s*\\{",
         "\\bhashCode\\b", "\\btoString\\b", "\\bObject\\b", "\\bSystem\\.(?!arraycopy\\b)",
         "\\bimport\\b(?! java\\.util\\.(Arrays|ArrayList|List);)", "\\bprotected\\b"};
+    private static final Set<String> LIBRARY = Set.of("Integer.bitCount", "Integer.numberOfTrailingZeros", "Math.min",
+        "Math.max", "Arrays.fill", "System.arraycopy");
     private static final int MOST_METHOD_LINES = 60;
+    private static final int MOST_PARAMETERS = 7;
     private static final Check c = new Check("FaceTests");
 
     private FaceTests() {
@@ -49,19 +52,13 @@ public final class FaceTests {
     private static void face() {
         Class<?> house = PointHouse.class;
         Set<String> open = new TreeSet<>();
-        Set<String> openNames = new TreeSet<>();
         for (Method m : house.getDeclaredMethods()) {
             if (!Modifier.isPrivate(m.getModifiers())) {
                 c.holds(m + " is public, no more", m.getModifiers() == Modifier.PUBLIC);
                 open.add(told(m));
-                openNames.add(m.getName());
             }
         }
         c.holds("the methods are the document's: " + open, open.equals(new TreeSet<>(Arrays.asList(FACE))));
-        for (Method m : house.getDeclaredMethods()) {
-            c.holds(m + " bears no public name", !Modifier.isPrivate(m.getModifiers())
-                || !openNames.contains(m.getName()));
-        }
         c.holds("public and final", house.getModifiers() == (Modifier.PUBLIC | Modifier.FINAL));
         c.due("one constructor", house.getDeclaredConstructors().length, 1);
         c.due("it is public", house.getDeclaredConstructors()[0].getModifiers(), Modifier.PUBLIC);
@@ -84,8 +81,22 @@ public final class FaceTests {
             c.holds(type + " is static", Modifier.isStatic(type.getModifiers()));
             c.holds(type + " is not public", !Modifier.isPublic(type.getModifiers()));
             dueFields(type);
+            dueMethods(type);
         }
         dueFields(PointHouse.class);
+        dueMethods(PointHouse.class);
+    }
+
+    private static void dueMethods(Class<?> type) {
+        Set<String> openNames = new TreeSet<>();
+        for (Method m : PointHouse.class.getMethods()) {
+            openNames.add(m.getName());
+        }
+        for (Method m : type.getDeclaredMethods()) {
+            c.holds(m + " has few parameters", m.getParameterCount() <= MOST_PARAMETERS);
+            c.holds(m + " bears no public name, being private", !Modifier.isPrivate(m.getModifiers())
+                || !openNames.contains(m.getName()));
+        }
     }
 
     private static void dueFields(Class<?> type) {
@@ -108,6 +119,10 @@ public final class FaceTests {
             Matcher m = Pattern.compile(sign).matcher(bare);
             boolean isFound = m.find();
             c.holds("none of " + sign + (isFound ? " but " + m.group() : ""), !isFound);
+        }
+        Matcher library = Pattern.compile("\\b[A-Z]\\w*\\.\\w+(?=\\()").matcher(bare);
+        while (library.find()) {
+            c.holds(library.group() + " is one of the library's", LIBRARY.contains(library.group()));
         }
         c.holds("plain signs alone", text.chars().allMatch(sign -> sign > 0 && sign < 128));
         int start = 0;

@@ -2,8 +2,10 @@ import java.util.Random;
 
 /** Runs of calls by fixed seeds: each answer of the program against the oracle's. */
 public final class OracleTests {
-    private static final int RUNS = 150;
-    private static final int CALLS = 512;
+    private static final int RUNS = 300;
+    private static final int MOST_CALLS = 512;
+    /** A run, and what each name had and has by it and may hold. */
+    private static final int MOST_CALLS_OF_A_STEP = 61;
     private static final Check c = new Check("OracleTests");
 
     private final Random random;
@@ -12,6 +14,7 @@ public final class OracleTests {
     private final int kinds;
     private final PointHouse house = new PointHouse();
     private final Oracle oracle = new Oracle();
+    private int calls;
 
     /** Few names and kinds let the lines of a run meet; each run has other numbers of them. */
     private OracleTests(int run) {
@@ -29,11 +32,11 @@ public final class OracleTests {
     }
 
     private void play() {
-        for (int call = 0; call < CALLS; call++) {
-            if (call % 512 < 200 && random.nextInt(4) != 0) {
-                call += tellSomething() - 1;
+        while (calls + MOST_CALLS_OF_A_STEP <= MOST_CALLS) {
+            if (calls < 200 && below(4) != 0) {
+                tellSomething();
             } else {
-                ask(random.nextInt(35), call);
+                ask(below(35));
             }
         }
     }
@@ -81,11 +84,11 @@ public final class OracleTests {
         return all.toString();
     }
 
-    /** Tells a line or something of kinds; answers how many calls that took. */
-    private int tellSomething() {
+    /** Tells a line or something of kinds. */
+    private void tellSomething() {
         if (below(4) == 0) {
-            ask(new int[] {0, 1, 3, 10}[below(4)], -1);
-            return 1;
+            ask(new int[] {0, 1, 3, 10}[below(4)]);
+            return;
         }
         String text = below(8) == 0 ? spoilt(text()) : text();
         long bytes = 0;
@@ -98,14 +101,15 @@ public final class OracleTests {
         int thread = near(3);
         int lock = near(4);
         due("line " + text, house.line(thread, lock), oracle.line(thread, lock));
-        return 2;
     }
 
+    /** Each answer is that of one call to the house. */
     private void due(String call, long got, long want) {
+        calls++;
         c.due("run " + run + ": " + call, got, want);
     }
 
-    private void ask(int which, int call) {
+    private void ask(int which) {
         if (which < 11) {
             askOfLines(which);
         } else if (which < 26) {
@@ -126,7 +130,7 @@ public final class OracleTests {
         long bytes = random.nextLong();
         switch (which) {
             case 0:
-                a = nearNone(house.count(0));
+                a = nearNone(oracle.count(0));
                 due("kind " + a, house.kind(a), oracle.kind(a));
                 break;
             case 1: due("has", house.has(a, b, f), oracle.has(a, b, f)); break;
@@ -148,10 +152,10 @@ public final class OracleTests {
     private void askOfSets(int which) {
         int name = near(Math.min(20, names));
         int other = near(Math.min(20, names));
-        int object = near(house.count(3));
-        int line = near(house.count(1));
+        int object = near(oracle.count(3));
+        int line = near(oracle.count(1));
         int what = near(3);
-        int budget = below(3) == 0 ? near(100000) : below(8) * house.count(5) + below(3) - 1;
+        int budget = below(3) == 0 ? near(100000) : below(8) * oracle.count(5) + below(3) - 1;
         switch (which) {
             case 11: due("holds", house.holds(name), oracle.holds(name)); break;
             case 12: due("field", house.field(object, what), oracle.field(object, what)); break;
@@ -186,7 +190,7 @@ public final class OracleTests {
         int j = near(20);
         int n = near(12);
         int sort = nearNone(3);
-        int line = near(house.count(1));
+        int line = near(oracle.count(1));
         switch (which) {
             case 26: run(); break;
             case 27: due("seen", house.seen(name), oracle.seen(name)); break;
@@ -221,9 +225,10 @@ public final class OracleTests {
         int did = house.run(seed, n);
         due("run", did, oracle.run(seed, n));
         for (int name = 0; did >= 0 && name < 20; name++) {
-            due("seen", house.seen(name), oracle.seen(name));
+            int had = house.seen(name);
+            due("seen", had, oracle.seen(name));
             due("now", house.now(name), oracle.now(name));
-            due("a true point is a maybe", house.seen(name) & ~house.holds(name), 0);
+            due("a true point is a maybe", had & ~house.holds(name), 0);
         }
     }
 }
