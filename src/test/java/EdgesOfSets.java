@@ -207,6 +207,26 @@ final class EdgesOfSets extends Edges {
         return h;
     }
 
+    /** Ten names walk along ten objects, a field a round; a call of the last object starts the next one's walk. */
+    private static PointHouse walks() {
+        PointHouse h = new PointHouse();
+        h.kind(NONE);
+        h.kind(NONE);
+        h.has(1, 0, 0);
+        h.names(0, NONE, NONE, 0);
+        for (char name = 'a'; name <= 'j'; name++) {
+            Check.line(h, name + (name == 'j' ? "=!1" : "=!0"));
+        }
+        for (char name = 'a'; name < 'j'; name++) {
+            Check.line(h, name + ".0=" + (char) (name + 1));
+        }
+        for (char walk = 'k'; walk <= 't'; walk++) {
+            Check.line(h, walk == 'k' ? "k=a" : walk + "=" + (char) (walk - 1) + ":0(a)");
+            Check.line(h, walk + "=" + walk + ".0");
+        }
+        return h;
+    }
+
     private void roundsAtOnce() {
         says(0, "ROUNDS: all sets are empty at first; in a ROUND all LINES at once add what they allow by the sets as"
             + " the ROUND begins.");
@@ -236,6 +256,7 @@ final class EdgesOfSets extends Edges {
         due("a chain of all names", chain(true).still(), 20);
         due("against the lines", chain(false).still(), 20);
         due("a FIELD alone is added last", Check.house("a=!0", "a.0=a").still(), 2);
+        due("ten walks, one behind the other", walks().still(), 101);
         PointHouse h = chain(true);
         h.turn(10, 0);
         due("a chain cut off", h.still(), 10);
@@ -258,6 +279,11 @@ final class EdgesOfSets extends Edges {
         due("the longer one is left", h.way(0, 3), 4);
         PointHouse all = chain(true);
         due("the longest chain of gives", all.way(0, 19), 20);
+        PointHouse walks = walks();
+        for (int walk = 0; walk < 10; walk++) {
+            due("the first object of walk " + walk, walks.way(0, 10 + walk), 2 + 10 * walk);
+            due("its last object", walks.way(9, 10 + walk), 11 + 10 * walk);
+        }
     }
 
     private void wayRefuses() {
