@@ -245,6 +245,9 @@ final class EdgesOfWhatFollows extends Edges {
         PointHouse eight = Check.house("a=b", "b=a", "b=c", "c=b", "d=c");
         due("two rounds with a name in common", eight.melted(2), 0);
         due("one beside them", eight.melted(3), 3);
+        for (String text : new String[] {"b=a/0", "b=a.0", "b.0=a", "a.0=b", "b=a:0(a)"}) {
+            due("by a GIVE and " + text, Check.house("a=!0", "a=b", text).melted(1), 1);
+        }
     }
 
     private void meltedRefuses() {
@@ -279,6 +282,11 @@ final class EdgesOfWhatFollows extends Edges {
         PointHouse g = Check.house("a=!0", "b=a", "a=c");
         g.in(2, 4);
         due("x of another line than its way's", g.leaves(), 1);
+        g.turn(2, 0);
+        due("that line is off, though its x holds the object still", g.leaves(), 0);
+        due("as it does", g.holds(0), 1);
+        g.turn(2, 1);
+        due("on again", g.leaves(), 1);
     }
 
     private void fieldsLeaveToo() {
